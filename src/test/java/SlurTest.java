@@ -5,6 +5,7 @@ public final class SlurTest {
     public static void main(String[] args) {
         wrongSlurs();
         sides();
+        betweenToldFirst();
         sideStays();
         ends();
         cutOff();
@@ -61,6 +62,16 @@ public final class SlurTest {
         due.is("one down before the first one", slurSide(true, true, 1, 99), -1);
         due.is("one down behind the second one", slurSide(true, true, 2, 101), -1);
         due.is("one down on a later line", slurSide(true, true, 3, 50), -1);
+    }
+
+    private static void betweenToldFirst() {
+        CurveTies ties = new CurveTies();
+        ties.line(300);
+        ties.note(0, 140, 0, false);
+        ties.note(0, 100, 0, true);
+        ties.note(0, 180, 0, true);
+        due.is("slur", ties.slur(1, 2), 0);
+        due.is("one down between, told first", ties.curve(0, 2), 1);
     }
 
     private static void sideStays() {

@@ -7,6 +7,7 @@ public final class TieTest {
         reach();
         room();
         sides();
+        chords();
         ends();
         twoParts();
         due.end();
@@ -67,6 +68,12 @@ public final class TieTest {
         due.is("curve 40, too near", ties.tie(0, 2), CurveTies.STATE);
         due.is("curve 40, unknown", ties.tie(0, 3), CurveTies.UNKNOWN);
         due.is("count(4)", ties.count(4), 40);
+        for (int curve = 0; curve < 40; curve++) {
+            due.is("line of part 0 of " + curve, ties.part(curve, 0, 0), 0);
+            due.is("line of part 1 of " + curve, ties.part(curve, 1, 0), 1);
+        }
+        // each slur is around all that was told before it, on its side
+        due.is("all 39 before the last slur are within it", ties.candidate(39, 1, 7, 1), 39);
     }
 
     private static int tieSide(boolean up, int... chord) {
@@ -99,6 +106,24 @@ public final class TieTest {
         due.is("one at its height", tieSide(true, 10), -1);
         due.is("one just above", tieSide(false, 11), -1);
         due.is("one just below", tieSide(true, 9), 1);
+    }
+
+    /** Only NOTES of one LINE at one x are a CHORD, in whatever order they came. */
+    private static void chords() {
+        CurveTies ties = new CurveTies();
+        ties.line(200);
+        ties.line(200);
+        ties.note(0, 50, 0, true);
+        ties.note(0, 50, 10, true);
+        ties.note(0, 90, 10, true);
+        ties.note(1, 50, 20, true);
+        ties.note(1, 50, 30, true);
+        due.is("tie", ties.tie(1, 2), 0);
+        due.is("one below, told first; two on another line", ties.curve(0, 2), 1);
+        ties.note(0, 51, 20, true);
+        ties.note(0, 90, 20, true);
+        due.is("tie", ties.tie(1, 2), 1);
+        due.is("others on the line, at another x", ties.curve(1, 2), 1);
     }
 
     private static void ends() {
