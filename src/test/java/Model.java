@@ -2,7 +2,7 @@ import java.util.ArrayList;
 import java.util.List;
 
 /**
- * The document once more, read on its own and written without regard to speed: everything is worked
+ * The document once more, written without regard to speed: everything is worked
  * out anew at every question, and what MEETS what is tested by crossing segments and triangles.
  */
 final class Model {
