@@ -9,6 +9,24 @@ final class Due {
         }
     }
 
+    /** Texts of one answer a line; the first line that differs is told. */
+    void same(String name, String got, String want) {
+        if (!got.equals(want)) {
+            String[] gotLines = got.split("\n");
+            String[] wantLines = want.split("\n");
+            int i = 0;
+            while (i < gotLines.length && i < wantLines.length && gotLines[i].equals(wantLines[i])) {
+                i++;
+            }
+            wrong++;
+            System.out.println(name + ": " + lineOf(gotLines, i) + ", due is " + lineOf(wantLines, i));
+        }
+    }
+
+    private static String lineOf(String[] lines, int i) {
+        return i < lines.length ? lines[i] : "nothing more";
+    }
+
     int wrong() {
         return wrong;
     }
