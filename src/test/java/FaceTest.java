@@ -14,6 +14,8 @@ public final class FaceTest {
         "int candidate(int,int,int,int)", "long along(int,int,int,int)", "int within(int,int,int,int)",
         "int count(int)", "int clear()"
     };
+    private static final int MOST_CLASSES = 12;
+    private static final int MOST_FIELDS = 20;
     private static final Due due = new Due();
 
     public static void main(String[] args) {
@@ -22,6 +24,7 @@ public final class FaceTest {
         fields();
         constructors();
         sharedNames();
+        classesInside();
         due.is("public and final", CurveTies.class.getModifiers(), Modifier.PUBLIC | Modifier.FINAL);
         due.end();
     }
@@ -92,5 +95,29 @@ public final class FaceTest {
                 due.is("private " + method.getName() + " has a name of its own", names.contains(method.getName()) ? 0 : 1, 1);
             }
         }
+    }
+
+    private static void classesInside() {
+        Class<?>[] inside = CurveTies.class.getDeclaredClasses();
+        due.is("classes are few", inside.length < MOST_CLASSES ? 1 : 0, 1);
+        fewFields(CurveTies.class);
+        for (Class<?> own : inside) {
+            due.is(own.getName() + " is static", Modifier.isStatic(own.getModifiers()) ? 1 : 0, 1);
+            due.is(own.getName() + " is not open", own.getModifiers() & (Modifier.PUBLIC | Modifier.PROTECTED), 0);
+            due.is(own.getName() + " has classes inside", own.getDeclaredClasses().length, 0);
+            fewFields(own);
+        }
+    }
+
+    private static void fewFields(Class<?> own) {
+        int fields = 0;
+        for (Field field : own.getDeclaredFields()) {
+            if (!Modifier.isStatic(field.getModifiers())) {
+                fields++;
+            } else {
+                due.is(own.getName() + "'s " + field.getName() + " is final", Modifier.isFinal(field.getModifiers()) ? 1 : 0, 1);
+            }
+        }
+        due.is(own.getName() + " has few fields", fields <= MOST_FIELDS ? 1 : 0, 1);
     }
 }
